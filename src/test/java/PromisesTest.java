@@ -253,6 +253,10 @@ public final class PromisesTest {
         ruleFault("", 0, 0);
         ruleFault("sweep", 5, 0);
         ruleFault("sweeps 1", 0, 0);
+        ruleFault("sweepz 1", 0, 0);
+        ruleFault("sweepa 1", 0, 0);
+        ruleFault("sweep`1", 5, 0);
+        ruleFault("sweep{1", 5, 0);
         ruleFault("valley 1 1", 0, 0);
         ruleFault("sweep x", 6, 0);
         ruleFault("sweep if", 6, 0);
@@ -312,7 +316,7 @@ public final class PromisesTest {
             () -> swept("sweep 1 if snow = 1;sweep snow"), () -> swept("sweep step*day + step"));
         all("of several the least", 1, () -> swept("sweep 1"), () -> swept("sweep strength"), () -> swept("sweep closed"),
             () -> swept("sweep house+1"), () -> swept("sweep day+1"), () -> swept("sweep closed if closed = 2"),
-            () -> swept("sweep 1 if strength = 50 and house = 0 and day = 0"), () -> swept("sweep 10 - snow"));
+            () -> swept("sweep 1 if strength = 50 and house = 0 and day = 0"), () -> swept("sweep 1 if next = 99"), () -> swept("sweep 10 - snow"));
         all("own", 2, () -> swept("sweep own"), () -> swept("sweep 100 - next if next < 99 and needed = 0"),
             () -> swept("sweep 1 if next = 2"), () -> swept("sweep 3 - beside if snow = 2"));
         all("needed", 4, () -> swept("sweep needed"), () -> swept("sweep 1 if next = 0"), () -> swept("sweep 99 - next"));
@@ -404,6 +408,14 @@ public final class PromisesTest {
         due("not needed", x.step(1, 5), 0);
         due("swept", x.step(0, 2), 0);
         all("step", -2, () -> x.step(3, 0), () -> x.step(-1, 0), () -> x.step(0, 6), () -> x.step(0, -1));
+        fresh("valley 1 5;step 4;need 30 0");
+        for (int i = 0; i < 30; i++) {
+            due("needed", x.step(0, 5), 0);
+            x.day();
+        }
+        due("needed", x.step(0, 5), 1);
+        x.day();
+        due("needed", x.step(0, 5), 0);
         fresh("valley 1 5;step 4;step 5");
         due("below DEEP", x.step(0, 1), 0);
         due("DEEP", x.step(1, 1), 1);
@@ -705,8 +717,12 @@ public final class PromisesTest {
         due("figure", x.figure(9, 1), 0);
         due("figure", x.figure(1 + 4, 1), 8);
         all("figure", -1, () -> x.figure(16, 0), () -> x.figure(-1, 0), () -> x.figure(0, 2), () -> x.figure(0, -1));
+        fresh("valley 1 5;step 3;step 3;step 2;wall 0 2;wall 1 2");
+        due("of several the least", x.figure(4, 1), 1);
+        fresh("valley 1 5" + times(";step 5", 8));
+        due("all of them", x.figure(0, 0), 8);
         fresh("valley 3 5;step 5;step 5;step 3;house 0 1");
-        due("of several the least", x.figure(1, 1), 2);
+        due("figure", x.figure(1, 1), 2);
         due("none at all", x.figure(0, 0), 2);
         x.sweep(0, 2);
         due("2 and FALL, swept already", x.figure(7, 0), 0);
@@ -820,6 +836,12 @@ public final class PromisesTest {
         due("by the RULE the rest", x.best(0, 2, 1), 0);
         x.sweep(0, 1);
         due("it has", x.best(0, 1, 0), -2);
+        // By the RULE, or by hand, what is swept of the first two closes the other one.
+        fresh("valley 1 5;step 4;step 4;step 0;house 0 9;wall 0 1;wall 1 0", "sweep 1 if step = 0");
+        due("with SNOW", x.best(0, 1, 0), -1);
+        x.toss(2, 1);
+        due("with SNOW", x.best(0, 1, 0), 2);
+        due("with SNOW", x.best(0, 1, 1), 0);
         x.day();
         all("best", -2, () -> x.best(0, 0, 0), () -> x.best(0, 31, 0), () -> x.best(1, 1, 0), () -> x.best(-1, 1, 0),
             () -> x.best(0, 1, 2), () -> x.best(0, 1, -1));
@@ -837,7 +859,9 @@ public final class PromisesTest {
         due("by none", x.might(0, 1), -2);
         fresh("valley 1 5;step 99;house 0 1");
         due("might", x.might(0, 1), 96);
-        x.toss(0, 4);
+        x.toss(0, 3);
+        due("99", x.might(0, 1), 99);
+        x.toss(0, 1);
         due("by none", x.might(0, 1), -2);
         fresh("valley 1 5;step 3;house 0 9");
         due("the least", x.might(0, 1), 1);
@@ -913,6 +937,7 @@ public final class PromisesTest {
     private void draws() {
         promise = 29;
         fresh(VILLAGE);
+        due("seed", x.seed(0), 0);
         due("seed", x.seed(7), 0);
         due("seed", x.seed(-1), -1);
         due("seed", x.seed(Integer.MIN_VALUE), -1);
