@@ -62,7 +62,7 @@ public final class SweptSnow {
     }
 
     public int valley() {
-        Valley told = valleyReader.read();
+        Valley told = valleyReader.readValley();
         // The TAPE was taken, whether it was a VALLEY or not; "all stays" is said of what is there.
         tape.length = 0;
         if (told == null) {
@@ -77,7 +77,7 @@ public final class SweptSnow {
         if (ruleCount >= rules.length) {
             return NONE;
         }
-        Rule told = ruleReader.read();
+        Rule told = ruleReader.readRule();
         tape.length = 0;
         if (told == null) {
             return -2 - tape.fault;
@@ -581,7 +581,7 @@ public final class SweptSnow {
         }
 
         /** The VALLEY; null with a FAULT. */
-        Valley read() {
+        Valley readValley() {
             told = new Valley();
             told.told = true;
             tape.open();
@@ -724,52 +724,59 @@ public final class SweptSnow {
         }
 
         /** The RULE; null with a FAULT. */
-        Rule read() {
+        Rule readRule() {
             length = 0;
             clauses = 0;
             parts = 0;
             tape.open();
             boolean more = true;
             for (int clause = 0; more && clause <= CLAUSES_MOST; clause++) {
-                readClause();
+                if (begins()) {
+                    tape.advance();
+                    readSum();
+                    starts[2 * clauses + 1] = length;
+                    if (tape.isWell() && tape.isWord("if")) {
+                        tape.advance();
+                        readTest(0);
+                    }
+                    clauses++;
+                    starts[2 * clauses] = length;
+                }
                 more = tape.goesOn();
             }
             return tape.isWell() ? new Rule(code, length, starts, clauses) : null;
         }
 
-        private void readClause() {
+        /** Whether a CLAUSE stands here, and one more may; else a FAULT. */
+        private boolean begins() {
             if (!tape.isWord("sweep")) {
                 tape.fail(Tape.FAULT_BYTE);
             } else if (clauses >= CLAUSES_MOST) {
                 tape.fail(Tape.FAULT_CLAUSE);
-            } else {
-                tape.advance();
-                readSum();
-                starts[2 * clauses + 1] = length;
-                if (tape.isWell() && tape.isWord("if")) {
-                    tape.advance();
-                    readTest(0);
-                }
-                clauses++;
-                starts[2 * clauses] = length;
             }
+            return tape.isWell();
         }
 
+        /** An "or" waits until its PART is whole, an "and" only for its FACT. */
         private void readTest(int depth) {
-            readPart(depth);
-            for (int more = 0; more < Tape.MOST && tape.isWell() && tape.isWord("or"); more++) {
-                tape.advance();
-                readPart(depth);
-                emit(Rule.OR);
-            }
-        }
-
-        private void readPart(int depth) {
-            readFact(depth);
-            for (int more = 0; more < Tape.MOST && tape.isWell() && tape.isWord("and"); more++) {
-                tape.advance();
+            boolean or = false;
+            boolean and = false;
+            for (int more = 0; more < Tape.MOST && tape.isWell(); more++) {
                 readFact(depth);
-                emit(Rule.AND);
+                if (and) {
+                    emit(Rule.AND);
+                }
+                and = tape.isWord("and");
+                if (!and) {
+                    if (or) {
+                        emit(Rule.OR);
+                    }
+                    or = tape.isWord("or");
+                    if (!or) {
+                        return;
+                    }
+                }
+                tape.advance();
             }
         }
 
@@ -814,7 +821,7 @@ public final class SweptSnow {
             }
         }
 
-        /** A deed of a SUM waits until its TERM is whole; one of a TERM only for its VALUE. */
+        /** A + or - waits until its TERM is whole, a deed of a TERM only for its VALUE. */
         private void readSum() {
             int waiting = 0;
             int deed = 0;

@@ -149,8 +149,8 @@ public final class LanguageTest {
             most = Math.max(most, depth(next, calls, open));
         }
         open.remove(open.size() - 1);
-        boolean recursion = Set.of("readTest", "readPart", "readFact", "readWithin").contains(name);
-        return most + (recursion ? 0 : 1);
+        // Of a bracket within a bracket: it is recursion, and counts once, as the outer one did.
+        return most + (name.equals("readWithin") ? 0 : 1);
     }
 
     private static void loops(String code) {
