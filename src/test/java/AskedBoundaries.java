@@ -82,6 +82,7 @@ final class AskedBoundaries extends Boundaries {
         due(0, "ahead", 0, 99, 1);
         due(9, "ahead", 0, 100, 0);
         due(1, "ahead", 0, 100, 1);
+        due(0, "ahead", 0, 99, 1);
         says("AHEAD what 0: SNOW, 1: how many are CLOSED (step is not asked).");
         for (int step : new int[] {-1, 2, 8, LOWEST, HIGHEST}) {
             due(1, "ahead", step, 100, 1);
@@ -164,6 +165,9 @@ final class AskedBoundaries extends Boundaries {
     private void ring() {
         says("RING: the first DAY, this one the first, of 60, at whose begin all SNOW lies as at the begin of a later one, "
             + "60 DAYS from now at most; how much later the first such is.");
+        fresh("valley 1 30;step 9;step 8;step 7");
+        due(0, "ring", 0);
+        due(1, "ring", 1);
         ringOf(0, 0, 1, 1);
         ringOf(0, 1, 0, 2);
         ringOf(0, 59, 0, 60);
@@ -224,6 +228,10 @@ final class AskedBoundaries extends Boundaries {
         spared(0, 0, 1, 10);
         fresh("valley 4 5;step 5;need 0 0;need 9 0");
         spared(1, 1, 0, 10);
+        // What is swept bare is OPEN, though a first flake closes it.
+        fresh("valley 1 1;step 5;need 0 0");
+        spared(1, 1, 0, 1);
+        spared(1, 1, 0, 2);
         fresh("valley 9 5;step 5;need 0 0;need 1 0;need 2 0;need 3 0;need 4 0;need 5 0;need 6 0;need 7 0;need 8 0;need 9 0");
         spared(1, 1, 0, 1);
         spared(10, 1023, 0, 10);
@@ -272,6 +280,10 @@ final class AskedBoundaries extends Boundaries {
         figured(1, 1, 0);
         figured(-2, -2, 2);
         figured(-2, -2, 4);
+        fresh("valley 1 2;step 5");
+        figured(1, 1, 0);
+        fresh("valley 1 1;step 5");
+        figured(-2, -2, 0);
         fresh("valley 5 5;step 5;step 4;step 0");
         figured(1, 2, 3);
         figured(-2, -2, 0);
@@ -390,6 +402,8 @@ final class AskedBoundaries extends Boundaries {
         fresh("valley 1 5;step 0;house 0 1");
         pactsAre(2, 0, 0, 1);
         pactsAre(2, 0, 0, 30);
+        fresh("valley 1 5;step 1;house 0 1");
+        pactsAre(1, 0, 1, 1);
         // The first one leaves nothing for the second, which has swept none then.
         fresh("valley 3 5;step 7;house 0 10;house 0 10");
         pactsAre(2, 1, 3, 1);
@@ -489,6 +503,11 @@ final class AskedBoundaries extends Boundaries {
         bestIs(NONE, 1, 0, 1);
         fresh("valley 1 5;step 5;step 5;step 0;house 0 9;wall 0 2;wall 1 0", "sweep 0");
         bestIs(1, 1, 0, 1);
+        // Who sweeps the first STEP can't spoil the second by the RULE; but it must have SNOW.
+        fresh("valley 2 3;step 1;step 2;house 0 1", "sweep 1 if step = 1");
+        bestIs(0, 0, 0, 1);
+        fresh("valley 2 3;step 0;step 2;house 0 1", "sweep 1 if step = 1");
+        bestIs(NONE, 1, 0, 1);
         says("BEST what 0: the STEP (NONE: none), 1: how many. -2 without these.");
         scene(this::busy);
         still(-2, "best", 1, 1, 0);
@@ -631,6 +650,12 @@ final class AskedBoundaries extends Boundaries {
         lookIs(0, 2, 0);
         lookIs(0, 2, 59);
         lookIs(1, 1, 60);
+        fresh("valley 9 30;step 1;step 1;house 0 9");
+        lookIs(0, 1, 0);
+        lookIs(0, 1, 60);
+        fresh("valley 9 30;step 1;step 1;house 0 9", "sweep 0", "sweep 0", "sweep 0", "sweep 0", "sweep 0", "sweep 0");
+        lookIs(0, 7, 0);
+        lookIs(0, 7, 60);
         // On DAY 1 of 9 SNOW 9, 8 and 7 are left on the first STEP, 9, 7 and 8 on the third.
         fresh("valley 1 30;step 9;step 9;step 9;house 0 2;house 0 3", "sweep 1 if step = house * 2",
             "sweep 1 if step = 2 - house * 2");
@@ -816,6 +841,7 @@ final class AskedBoundaries extends Boundaries {
         due(0, "undo");
         due(NONE, "undo");
         imageOfBefore();
+        imageOfNotes();
         imageOfNothing();
         says("An IMAGE is made: DAY; NONE without it.");
         scene(this::busy);
@@ -846,6 +872,19 @@ final class AskedBoundaries extends Boundaries {
         due(2, "day");
         due(1, "back", 0);
         due(2, "day");
+    }
+
+    private void imageOfNotes() {
+        fresh("valley 1 30;step 9;step 8;house 0 9", "sweep 1 if step = 0 and day = 1");
+        call("note", 2, 0, 9);
+        ruledIs(1, NONE);
+        due(0, "image", 0);
+        call("note", NONE, 0, 0);
+        call("note", 1, 1, 3);
+        ruledIs(0, -2);
+        due(0, "back", 0);
+        due(1, "count", 11);
+        ruledIs(1, NONE);
     }
 
     private void imageOfNothing() {

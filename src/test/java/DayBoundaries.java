@@ -294,6 +294,12 @@ final class DayBoundaries extends Boundaries {
                 due(want[i][what], "step", i, what);
             }
         }
+        fresh("valley 1 1" + times(";step 3", 8) + ";house 0 9;need 0 7");
+        call("sweep", 0, 7);
+        for (int i = 0; i < 8; i++) {
+            due(i == 7 ? 1 : 0, "step", i, 2);
+            due(i == 7 ? 1 : 0, "step", i, 5);
+        }
         says("-2 without these.");
         scene(this::busy);
         outside(-2, "step", 0, 0, 2, 0, 0);
@@ -421,6 +427,9 @@ final class DayBoundaries extends Boundaries {
         due(0 + 0 + 1 + 1 + 49 + 49 + 499, "thaw");
         snow(0, 0, 1, 1, 49, 49, 499);
         due(0, "count", 8);
+        fresh("valley 1 9" + times(";step 5", 8));
+        due(8 * 2, "thaw");
+        snow(2, 2, 2, 2, 2, 2, 2, 2);
         says("NONE, and nothing happens, if there is none.");
         fresh("valley 1 9;step 0;step 1");
         due(0, "thaw");

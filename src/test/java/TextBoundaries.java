@@ -135,6 +135,8 @@ final class TextBoundaries extends Boundaries {
         tell(filled("valley 1 1", 400));
         due(400, "end", 400);
         due(399, "end", 399);
+        cutOff();
+        tell(filled("valley 1 1", 399));
         says("NONE, and nothing happens, if it has not so many, or n is below 0.");
         due(NONE, "end", 400);
         due(399, "count", 14);
@@ -145,6 +147,22 @@ final class TextBoundaries extends Boundaries {
         outside(NONE, "end", 0, 0, 0, 0);
     }
 
+    /** Bytes behind the end stand for nothing, though they were fed. */
+    private void cutOff() {
+        cutTo(5, "valley", "valley 1 1", 0);
+        cutTo(7, "valley", "valley 1 1", 7);
+        cutTo(8, "rule", "sweep day", 6);
+        cutTo(13, "rule", "sweep 1 if 1<=1", 13);
+        cutTo(13, "rule", "sweep 1 if 1>=1", 13);
+        cutTo(11, "rule", "sweep 1 if 1=1", 11);
+    }
+
+    private void cutTo(int length, String kind, String text, int place) {
+        tell(text);
+        due(length, "end", length);
+        is(-2 - (1 + 8 * place), call(kind), kind + " of the first " + length + " bytes of " + text);
+    }
+
     private void lengthOfText() {
         says("A VALLEY is a text of at most 400 bytes:");
         x = new SweptSnow();
@@ -153,9 +171,15 @@ final class TextBoundaries extends Boundaries {
         due(5, "step", 0, 0);
         faultyValley(filled("valley 1 1", 399) + "^x", 0);
         faultyValley(filled("valley 1 1", 399) + ";^", 0);
+        faultyValley(filled("valley 1 1;", 399) + "^s", 0);
+        faultyValley(filled("valley 1 1;step 5;step", 399) + "^p", 0);
         ruleIsRight(filled("sweep 1", 397) + "+99");
         faultyRule(filled("sweep 1", 399) + "^x", 0);
         faultyRule(filled("sweep 1", 399) + "+^", 0);
+        faultyRule(filled("sweep 1+", 399) + "^s", 0);
+        faultyRule(filled("sweep 1 if 1", 399) + "<^", 0);
+        faultyRule(filled("sweep 1 if", 399) + "[^", 0);
+        ruleIsRight(filled("sweep 1+", 397) + "day");
     }
 
     private void clausesOfValley() {
@@ -346,6 +370,9 @@ final class TextBoundaries extends Boundaries {
         holds(0, "1=2 and 1=1 or 1=1 and 1=2");
         holds(15, "1=2 or 1=2 or 1=2 or 1=1");
         holds(0, "1=1 and 1=1 and 1=1 and 1=2");
+        holds(15, "1=1 or [1=2]");
+        holds(15, "1=1 or [1=2 and 1=1]");
+        holds(0, "1=2 and [1=1 or 1=1]");
         faultyRule(IF + "1=1 or^", 0);
         faultyRule(IF + "1=1 and ^or 1=1", 0);
         faultyRule(IF + "^or 1=1", 0);
@@ -360,7 +387,13 @@ final class TextBoundaries extends Boundaries {
         holds(2, "snow = 5");
         holds(14, "snow >= 5");
         holds(12, "snow > 5");
+        holds(14, "not snow < 5");
+        holds(12, "not snow <= 5");
         holds(13, "not snow = 5");
+        holds(1, "not snow >= 5");
+        holds(3, "not snow > 5");
+        holds(2, "snow <= 5 and snow >= 5");
+        holds(6, "snow < 7 and snow > 4");
         holds(2, "not not snow = 5");
         holds(9, "not [snow = 5 or snow = 6]");
         holds(13 & 7, "not snow = 5 and snow < 7");
@@ -425,7 +458,8 @@ final class TextBoundaries extends Boundaries {
         for (String word : words.split(" ")) {
             ruleIsRight("sweep " + word);
             ruleIsRight("sweep " + word + "+" + word + " if " + word + "=" + word);
-            faultyRule("sweep ^" + word + "s", 0);
+            faultyRule("sweep ^" + word + "a", 0);
+            faultyRule("sweep ^" + word + "z", 0);
             faultyRule("sweep ^" + word.substring(0, word.length() - 1), 0);
             faultyRule("sweep ^" + word.substring(0, 1).toUpperCase() + word.substring(1), 0);
             faultyRule("sweep " + word + "^5", 0);
@@ -470,6 +504,10 @@ final class TextBoundaries extends Boundaries {
         due(1, "sweep", 0, 0);
         due(1, "day");
         due(0, "day");
+        fresh(valley, "sweep 1 if swept = 1");
+        due(1, "sweep", 0, 1);
+        due(2, "day");
+        snow(9, 9 - 1 - 1 + 1);
         fresh(valley, "sweep 1 if swept = 0");
         due(1, "sweep", 0, 0);
         due(3, "day");
@@ -500,6 +538,8 @@ final class TextBoundaries extends Boundaries {
         call("force", 0);
         due(2, "day");
         due(0, "day");
+        fresh("valley 1 30;step 9;step 9;house 0 1;need 0 1", "sweep 1 if needed = 1");
+        due(2, "day");
         says("next (in how many DAYS it is needed next, this one 0; 99 without),");
         String valley = "valley 1 30;step 9;step 9;step 9;house 0 1;need 0 0;need 2 0;need 30 1";
         nextIs(valley, 0, 0, 30, 99);
