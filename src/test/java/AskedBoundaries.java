@@ -154,9 +154,9 @@ final class AskedBoundaries extends Boundaries {
         still(NONE, "closes", 0);
     }
 
-    /** RING of a STEP with 9 SNOW that is more by 1 from one DAY on, and as it was behind another. */
+    /** RING of 8 STEPS with 9 SNOW, of which one has 1 more from one DAY on, and is as it was behind another. */
     private void ringOf(int more, int less, int first, int later) {
-        fresh("valley 2 30;step 9;house 0 1;house 0 3",
+        fresh("valley 2 30" + times(";step 9", 8) + ";house 0 1;house 0 3",
             "sweep 1 if house = 0 and day = " + more + " or house = 1 and day = " + less);
         due(first, "ring", 0);
         due(later, "ring", 1);
@@ -472,6 +472,10 @@ final class AskedBoundaries extends Boundaries {
         heap(0, 900);
         due(9, "thrownOn", 0, 1, 1);
         due(540, "thrownOn", 0, 60, 1);
+        fresh("valley 9 1;step 5" + times(";step 0", 7) + ";house 0 5;wall 0 7", "sweep 1 if day = 0;sweep step");
+        due(5, "thrownOn", 7, 1, 0);
+        due(0, "thrownOn", 7, 1, 1);
+        due(9, "thrownOn", 7, 2, 1);
         says("THROWN what 0: over WALLS, 1: by night. NONE without these.");
         scene(this::busy);
         outside(NONE, "thrownOn", 0, 0, 2, 0, 1, 0);
@@ -503,6 +507,9 @@ final class AskedBoundaries extends Boundaries {
         bestIs(NONE, 1, 0, 1);
         fresh("valley 1 5;step 5;step 5;step 0;house 0 9;wall 0 2;wall 1 0", "sweep 0");
         bestIs(1, 1, 0, 1);
+        fresh("valley 1 5" + times(";step 4", 7) + ";step 5;house 0 9", "sweep 0");
+        bestIs(7, 0, 0, 1);
+        bestIs(7, 0, 0, 30);
         // Who sweeps the first STEP can't spoil the second by the RULE; but it must have SNOW.
         fresh("valley 2 3;step 1;step 2;house 0 1", "sweep 1 if step = 1");
         bestIs(0, 0, 0, 1);
