@@ -33,7 +33,7 @@ public final class SweptSnow {
         valleyReader = new ValleyReader(tape);
         ruleReader = new RuleReader(tape);
         rules = new Rule[RULES_MOST];
-        now = new World(new Valley());
+        now = new World();
         images = new World[IMAGES_MOST];
         acts = new Acts();
         winter = new Winter(now.valley);
@@ -354,7 +354,7 @@ public final class SweptSnow {
             return NONE;
         }
         if (images[k] == null) {
-            images[k] = new World(now.valley);
+            images[k] = new World();
         }
         images[k].copyFrom(now);
         return now.ground.day;
@@ -573,16 +573,16 @@ public final class SweptSnow {
         private static final int KIND_WALL = 4;
 
         private final Tape tape;
-        private Valley told;
+        private final Valley blank = new Valley();
+        private final Valley told = new Valley();
 
         ValleyReader(Tape tape) {
             this.tape = tape;
-            this.told = new Valley();
         }
 
-        /** The VALLEY; null with a FAULT. */
+        /** The VALLEY, which is good until the next reading; null with a FAULT. */
         Valley readValley() {
-            told = new Valley();
+            told.copyFrom(blank);
             told.told = true;
             tape.open();
             boolean more = true;
@@ -994,7 +994,7 @@ public final class SweptSnow {
         }
     }
 
-    /** What a text told; it never changes once it was read, so that IMAGES can share it. */
+    /** What a text told; no ACT changes it. */
     private static final class Valley {
         static final int NEED_LAST = 30;
         static final int NEVER = 99;
@@ -1009,6 +1009,19 @@ public final class SweptSnow {
         final int[] beside = new int[STEPS_MOST];
         final int[] needs = new int[STEPS_MOST];
         final Ground first = new Ground();
+
+        void copyFrom(Valley other) {
+            told = other.told;
+            fall = other.fall;
+            deep = other.deep;
+            steps = other.steps;
+            houses = other.houses;
+            System.arraycopy(other.own, 0, own, 0, HOUSES_MOST);
+            System.arraycopy(other.strength, 0, strength, 0, HOUSES_MOST);
+            System.arraycopy(other.beside, 0, beside, 0, STEPS_MOST);
+            System.arraycopy(other.needs, 0, needs, 0, STEPS_MOST);
+            first.copyFrom(other.first);
+        }
 
         boolean isNeeded(int step, int day) {
             return day <= NEED_LAST && (needs[step] >> day & 1) == 1;
@@ -1085,7 +1098,7 @@ public final class SweptSnow {
 
     /** All that an IMAGE holds. */
     private static final class World {
-        Valley valley;
+        final Valley valley = new Valley();
         final Ground ground = new Ground();
         int inForce = NONE;
         int drawn;
@@ -1094,18 +1107,14 @@ public final class SweptSnow {
         final int[] noteStep = new int[NOTES_MOST];
         final int[] noteSnow = new int[NOTES_MOST];
 
-        World(Valley valley) {
-            this.valley = valley;
-        }
-
         void settle(Valley told) {
-            valley = told;
+            valley.copyFrom(told);
             ground.copyFrom(told.first);
             notes = 0;
         }
 
         void copyFrom(World other) {
-            valley = other.valley;
+            valley.copyFrom(other.valley);
             ground.copyFrom(other.ground);
             inForce = other.inForce;
             drawn = other.drawn;
@@ -1173,7 +1182,7 @@ public final class SweptSnow {
         final int[] fallen = new int[STEPS_MOST];
         private final long[] words = new long[Rule.WORD_COUNT];
         private final long[] stack = new long[Rule.STACK];
-        private Valley valley;
+        private final Valley valley;
         private Rule rule;
 
         Winter(Valley valley) {
@@ -1181,8 +1190,7 @@ public final class SweptSnow {
         }
 
         /** From here on; rule is null if none is IN FORCE. */
-        void begin(Valley valley, Rule rule, Ground from) {
-            this.valley = valley;
+        void begin(Rule rule, Ground from) {
             this.rule = rule;
             ground.copyFrom(from);
             System.arraycopy(valley.strength, 0, strength, 0, HOUSES_MOST);
@@ -1299,7 +1307,7 @@ public final class SweptSnow {
         }
 
         void start() {
-            winter.begin(now.valley, ruleAt(now.inForce), now.ground);
+            winter.begin(ruleAt(now.inForce), now.ground);
         }
 
         void go(int n) {
@@ -1419,7 +1427,7 @@ public final class SweptSnow {
         }
 
         private boolean agrees(int guess, int n) {
-            winter.begin(now.valley, ruleAt(guess - 1), now.valley.first);
+            winter.begin(ruleAt(guess - 1), now.valley.first);
             int last = lastNoted(n);
             for (int day = 0; day <= last; day++) {
                 if (!isAsNoted(day)) {
@@ -1667,7 +1675,7 @@ public final class SweptSnow {
                 for (int house = 0; house < HOUSES_MOST; house++) {
                     gain[set * HOUSES_MOST + house] = 0;
                 }
-                winter.begin(now.valley, null, now.ground);
+                winter.begin(null, now.ground);
                 for (int i = 0; i < n; i++) {
                     sweepAsAgreed(set);
                     winter.passNight();

@@ -15,6 +15,7 @@ public final class PromisesTest {
         t.newObject();
         t.tape();
         t.valleys();
+        t.valleysApart();
         t.valleyFaults();
         t.rules();
         t.ruleFaults();
@@ -47,6 +48,7 @@ public final class PromisesTest {
         t.draws();
         t.counts();
         t.images();
+        t.imagesApart();
         System.out.println("PromisesTest: " + asked + " answers, " + wrong + " wrong");
         if (wrong != 0) {
             System.exit(1);
@@ -176,6 +178,28 @@ public final class PromisesTest {
 
     private void valleyFault(String text, int place, int what) {
         due("valley() of " + text, valley(text), -2 - (1 + 8 * place + what));
+    }
+
+    /** Of a text nothing is left in the next one, whether it was a VALLEY or not. */
+    private void valleysApart() {
+        promise = 4;
+        String full = "valley 9 30;step 9;step 8;step 7;house 2 99;path 0 1;path 1 2;wall 0 1;wall 1 2;need 0 0;need 3 1";
+        for (String end : new String[] {"", ";", ";step 100"}) {
+            x = new SweptSnow();
+            due("a VALLEY or a FAULT", valley(full + end) < 0 ? 0 : x.count(2), end.isEmpty() ? 3 : 0);
+            due("valley()", valley("valley 1 2;step 0;step 1;house 0 5"), 2);
+            int[] want = {1, 2, 2, 1, 0, -1, 0, 0, 0, 0, 1, 0, 0, 0, 0};
+            for (int i = 0; i < want.length; i++) {
+                due("count(" + i + ")", x.count(i), want[i]);
+            }
+            all("no WALL", -1, () -> x.step(0, 3), () -> x.step(1, 3), () -> x.pull(0), () -> x.house(1, 0));
+            all("nothing beside, not needed", 0, () -> x.step(0, 4), () -> x.step(1, 4), () -> x.step(0, 5));
+            all("its STEPS alone", -2, () -> x.step(2, 0), () -> x.way(0, 1, 0), () -> x.note(0, 2, 0));
+            due("house(0, 1)", x.house(0, 1), 5);
+            rule("sweep next - 98");
+            x.force(0);
+            due("never needed", x.day(), 2);
+        }
     }
 
     private void valleyFaults() {
@@ -1030,5 +1054,32 @@ public final class PromisesTest {
         x.day();
         due("made anew", x.back(0), 2);
         due("count(5)", x.count(5), 0);
+    }
+
+    /** An IMAGE has a VALLEY of its own, whatever is told, read or gone back to behind it. */
+    private void imagesApart() {
+        promise = 33;
+        fresh(VILLAGE);
+        x.image(0);
+        valley("valley 9 30;step 99;step 98;house 1 1;path 0 1;wall 1 0;need 0 1");
+        x.image(1);
+        due("a fault", valley("valley 7 7;step 1;step 2;step 3;step 4;wall 3 2;"), -3 - 8 * 48);
+        for (int round = 0; round < 2; round++) {
+            due("back", x.back(0), 0);
+            all("VILLAGE", 3, () -> x.count(0), () -> x.count(2), () -> x.ahead(0, 1, 0));
+            all("VILLAGE", 1, () -> x.step(0, 3), () -> x.house(1, 0), () -> x.closes(1), () -> x.spare(0, 3, 0));
+            due("step(1, 4)", x.step(1, 4), 5);
+            snow(7, 2, 0);
+            due("from the begin on", x.note(1, 1, 8), 1);
+            due("ruled(0)", x.ruled(0), 1);
+            due("back", x.back(1), 0);
+            all("the other one", 2, () -> x.count(2), () -> x.step(0, 4), () -> x.count(9), () -> x.way(0, 1, 0));
+            all("the other one", -1, () -> x.step(0, 3), () -> x.house(1, 0));
+            snow(99, 98);
+            due("from the begin on", x.note(1, 0, 99), 1);
+            due("on day 1 it has 100", x.ruled(0), 0);
+            x.image(2);
+            x.back(2);
+        }
     }
 }
